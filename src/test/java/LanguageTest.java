@@ -1,0 +1,42 @@
+import java.nio.file.Files;
+import java.nio.file.Path;
+import java.util.List;
+import java.util.regex.Pattern;
+
+/** The rules of LANGUAGE.md that can be seen from single lines; the others are kept by reading. */
+public final class LanguageTest {
+    private static final String[][] RULED_OUT = {
+        {"3", "\\b(Object|Map|HashMap|Set|Long|Boolean|Character)\\b\\s+\\w+\\s*[=;]"},
+        {"4", "^\\s*import\\b"},
+        {"4", "\\bSystem\\.(?!arraycopy)"},
+        {"4", "Exact\\("},
+        {"4", "String\\.(format|valueOf|join)"},
+        {"5", "^\\s*static\\s*\\{"},
+        {"6", "\\b(finally|synchronized|assert|catch|try)\\b"},
+        {"6", "\\.getMessage\\(|\\bhashCode\\b|\\btoString\\(\\)\\s*\\{|extends \\w*Exception"},
+        {"6", "throw new (?!(IllegalStateException|IllegalArgumentException|IndexOutOfBoundsException)\\((\"[^\"]*\")?\\);)"},
+        {"2", "->|::"},
+        {"13", "\\b(Random|nanoTime|currentTimeMillis|Thread|File)\\b"}};
+
+    public static void main(String[] args) throws Exception {
+        List<String> lines = Files.readAllLines(Path.of("src/main/java/Tokenwalk.java"));
+        int wrong = 0;
+        for (int i = 0; i < lines.size(); i++) {
+            for (String[] rule : RULED_OUT) {
+                if (Pattern.compile(rule[1]).matcher(code(lines.get(i))).find()) {
+                    wrong++;
+                    System.out.println("line " + (i + 1) + " breaks rule " + rule[0] + ": " + lines.get(i));
+                }
+            }
+        }
+        System.out.println(wrong == 0 ? "LanguageTest: no line breaks a rule" : "LanguageTest: " + wrong + " lines");
+        if (wrong != 0) {
+            System.exit(1);
+        }
+    }
+
+    private static String code(String line) {
+        String bare = line.strip();
+        return bare.startsWith("//") || bare.startsWith("/*") || bare.startsWith("*") ? "" : line;
+    }
+}
