@@ -557,6 +557,10 @@ public final class PromiseTest {
         type(x, 3, "c;b");
         due(x.isNext(0, 3), false);
         due(x.text(3), "c;b");
+        x.wipe(3);
+        type(x, 3, "bb");
+        due(x.isNext(0, 3), false);
+        due(x.isNext(0, 3), false);
         refusesEach(INDEX, NO_INDEX, (y, i) -> y.isNext(i, 0));
         refusesEach(INDEX, NO_INDEX, (y, i) -> y.isNext(0, i));
     }
