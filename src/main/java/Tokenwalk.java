@@ -631,7 +631,10 @@ public final class Tokenwalk {
 
         void putPart(Row source, int start, int end) {
             for (int i = start; i < end; i++) {
-                put(source.signOn(i));
+                if (i >= 0 && i < source.size && size < signs.length) {
+                    signs[size] = source.signs[i];
+                    size++;
+                }
             }
         }
 
