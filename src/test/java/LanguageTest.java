@@ -5,17 +5,21 @@ import java.util.regex.Pattern;
 
 /** The rules of LANGUAGE.md that can be seen from single lines; the others are kept by reading. */
 public final class LanguageTest {
+    private static final String THROWN = "(IllegalStateException|IllegalArgumentException|IndexOutOfBoundsException"
+        + "|ArithmeticException|UnsupportedOperationException|NoSuchElementException|RuntimeException)";
     private static final String[][] RULED_OUT = {
-        {"3", "\\b(Object|Map|HashMap|Set|Long|Boolean|Character)\\b\\s+\\w+\\s*[=;]"},
-        {"4", "^\\s*import\\b"},
+        {"2", "^(?!\\s*(case|default)\\b).*->|::"},
+        {"3", "\\b(Object|Long|Boolean|Character)\\b\\s+\\w+\\s*[=;]"},
+        {"4", "\\bjava\\.(?!util\\.(ArrayList|List|Arrays|Iterator|NoSuchElementException|\\*);)"},
         {"4", "\\bSystem\\.(?!arraycopy)"},
         {"4", "Exact\\("},
         {"4", "String\\.(format|valueOf|join)"},
         {"5", "^\\s*static\\s*\\{"},
-        {"6", "\\b(finally|synchronized|assert|catch|try)\\b"},
+        {"6", "\\b(finally|synchronized|assert)\\b|\\btry\\s*\\("},
+        {"6", "\\bcatch\\b(?!\\s*\\(\\s*(final\\s+)?" + THROWN + "\\b)"},
         {"6", "\\.getMessage\\(|\\bhashCode\\b|\\btoString\\(\\)\\s*\\{|extends \\w*Exception"},
-        {"6", "throw new (?!(IllegalStateException|IllegalArgumentException|IndexOutOfBoundsException)\\((\"[^\"]*\")?\\);)"},
-        {"2", "->|::"},
+        {"6", "\\bthrow\\b(?! new " + THROWN + "\\((\"[^\"]*\")?\\);)"},
+        {"10", "\"\\s*\\+|\\+=?\\s*\""},
         {"13", "\\b(Random|nanoTime|currentTimeMillis|Thread|File)\\b"}};
 
     public static void main(String[] args) throws Exception {

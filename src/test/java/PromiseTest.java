@@ -1,36 +1,13 @@
-import java.util.ArrayList;
 import java.util.List;
 
 /** Promise by promise: ordinary inputs, the edges that the document names, and wrong inputs. */
-public final class PromiseTest {
-    private interface Call {
-        Object on(Tokenwalk x);
-    }
-
-    private static final Class<?> INDEX = IndexOutOfBoundsException.class;
-    private static final Class<?> ARGUMENT = IllegalArgumentException.class;
-    private static final Class<?> STATE = IllegalStateException.class;
-    private static final int[] NO_INDEX = {-1, 4, Integer.MIN_VALUE, Integer.MAX_VALUE};
-    private static final int[] NO_SET = {-1, 256, Integer.MIN_VALUE, Integer.MAX_VALUE};
-    private static final String BLANKS = " ".repeat(24);
-
-    private static int promise;
-    private static int wrong;
-    private static int checks;
-
+public final class PromiseTest extends Checks {
     public static void main(String[] args) {
         List<Runnable> promises = promises();
-        for (promise = 1; promise <= promises.size(); promise++) {
-            int before = checks;
-            promises.get(promise - 1).run();
-            if (checks == before) {
-                report("no check was made");
-            }
+        for (int i = 1; i <= promises.size(); i++) {
+            check("promise " + i, promises.get(i - 1));
         }
-        System.out.println(wrong == 0 ? "PromiseTest: all " + checks + " checks hold" : "PromiseTest: " + wrong + " checks fail");
-        if (wrong != 0) {
-            System.exit(1);
-        }
+        finish("PromiseTest");
     }
 
     private static List<Runnable> promises() {
@@ -49,110 +26,6 @@ public final class PromiseTest {
             PromiseTest::inTurn, PromiseTest::whole, PromiseTest::without, PromiseTest::areLike,
             PromiseTest::blank, PromiseTest::knock, PromiseTest::house, PromiseTest::isSound,
             PromiseTest::digest);
-    }
-
-    // ---- what the checks stand on
-
-    private static void report(String what) {
-        wrong++;
-        System.out.println("promise " + promise + ": " + what);
-    }
-
-    private static void due(Object got, Object want) {
-        checks++;
-        if (!want.equals(got)) {
-            report("check " + checks + " answered <" + got + ">, due is <" + want + ">");
-        }
-    }
-
-    private static Object answer(Call call, Tokenwalk x) {
-        try {
-            return call.on(x);
-        } catch (RuntimeException e) {
-            return e.getClass();
-        }
-    }
-
-    /** The call throws just this, and the object goes on like one that it was never made on. */
-    private static void refuses(Class<?> exception, Call call) {
-        asks(call, exception);
-    }
-
-    /** The call answers this and changes nothing. */
-    private static void asks(Call call, Object want) {
-        Tokenwalk x = prepared();
-        Tokenwalk untouched = prepared();
-        due(answer(call, x), want);
-        due(trace(x), trace(untouched));
-    }
-
-    /** All that an object tells of itself; at the end by walking on, which shows the places too. */
-    private static List<Object> trace(Tokenwalk x) {
-        List<Object> all = new ArrayList<>();
-        for (int i = 0; i < 4; i++) {
-            all.add(x.text(i));
-            all.add(x.length(i));
-            all.add(x.textOf(i));
-            all.add(x.setOf(i));
-            all.add(x.isKeeping(i));
-            all.add(x.had(i));
-            all.add(x.count(i));
-            all.add(x.has(i));
-        }
-        for (int i = 0; i < 6; i++) {
-            all.add(x.house(i));
-        }
-        all.add(x.digest());
-        for (int i = 0; i < 4; i++) {
-            all.add(x.nextBy(i, 0));
-        }
-        return all;
-    }
-
-    /**
-     * Texts: "ab,,c;a,,", "a b(tab)c(end)", 24 blanks, none. Walkers: 0 behind "ab" of text 0 by ",",
-     * 1 the same but KEEPING and one "," further, 2 on text 1 by PLAIN, 3 on text 0 by ";" at its end.
-     */
-    private static Tokenwalk prepared() {
-        Tokenwalk x = new Tokenwalk();
-        x.typeRow(0, 141000, 7);
-        x.typeOften(0, 3, 2);
-        x.typeRow(1, 240744, 6);
-        x.typeOften(2, 5, 24);
-        x.begin(0, 0, 8, false);
-        x.next(0);
-        x.begin(1, 0, 8, true);
-        x.next(1);
-        x.next(1);
-        x.beginPlain(2, 1);
-        x.begin(3, 0, 16, false);
-        x.skip(3, 2);
-        x.blank();
-        x.knock();
-        x.knock();
-        return x;
-    }
-
-    private static Tokenwalk typed(String signs) {
-        Tokenwalk x = new Tokenwalk();
-        type(x, 0, signs);
-        return x;
-    }
-
-    private static void type(Tokenwalk x, int text, String signs) {
-        for (char c : signs.toCharArray()) {
-            x.type(text, "abc,; \t\n".indexOf(c));
-        }
-    }
-
-    private interface IndexedCall {
-        Object on(Tokenwalk x, int index);
-    }
-
-    private static void refusesEach(Class<?> exception, int[] numbers, IndexedCall call) {
-        for (int number : numbers) {
-            refuses(exception, x -> call.on(x, number));
-        }
     }
 
     // ---- promise 1
@@ -451,10 +324,6 @@ public final class PromiseTest {
         refusesEach(INDEX, NO_INDEX, (x, i) -> x.next(i));
     }
 
-    private interface TellingCall {
-        String on(Tokenwalk x, int walker);
-    }
-
     /** What next and thing both have to tell. */
     private static void nextTold(TellingCall call) {
         Tokenwalk x = typed(",,ab,,c;a,,");
@@ -604,7 +473,7 @@ public final class PromiseTest {
         due(call.on(x, 2), "a|b|c");
         due(call.on(x, 3), "");
         x.begin(0, 2, 32, true);
-        due(call.on(x, 0), " |".repeat(23) + " ");
+        due(call.on(x, 0), BARRED_BLANKS);
         x.begin(0, 3, 32, true);
         due(call.on(x, 0), "");
         due(x.house(3), 0);
@@ -633,7 +502,7 @@ public final class PromiseTest {
         due(x.house(3), 0);
         x.begin(0, 2, 32, true);
         x.begin(1, 2, 32, true);
-        due(x.both(0, 1), " |".repeat(47) + " ");
+        due(x.both(0, 1), BARRED_BLANKS + "|" + BARRED_BLANKS);
         due(x.had(0), 24);
         due(x.had(1), 24);
         refusesEach(INDEX, NO_INDEX, (y, i) -> y.both(i, 0));
@@ -804,7 +673,7 @@ public final class PromiseTest {
         asks(x -> x.pieces(0, 255, false), "");
         asks(x -> x.pieces(1, 224, false), "a|b|c");
         asks(x -> x.pieces(1, 224, true), "a| |b|\t|c|\n");
-        asks(x -> x.pieces(2, 32, true), " |".repeat(23) + " ");
+        asks(x -> x.pieces(2, 32, true), BARRED_BLANKS);
         asks(x -> x.pieces(3, 0, true), "");
         asks(x -> x.pieces(3, 255, false), "");
         refusesEach(INDEX, NO_INDEX, (x, i) -> x.pieces(i, 0, true));
@@ -865,7 +734,7 @@ public final class PromiseTest {
         asks(x -> x.inTurn(0, 0, 255), "ab,,c;a,,");
         asks(x -> x.inTurn(0, 255, 0), "a|b,,c;a,,");
         asks(x -> x.inTurn(1, 32, 64), "a| b|\tc\n");
-        asks(x -> x.inTurn(2, 32, 32), " |".repeat(23) + " ");
+        asks(x -> x.inTurn(2, 32, 32), BARRED_BLANKS);
         asks(x -> x.inTurn(3, 0, 255), "");
         refusesEach(INDEX, NO_INDEX, (x, i) -> x.inTurn(i, 0, 0));
         refusesEach(ARGUMENT, NO_SET, (x, i) -> x.inTurn(0, i, 0));
@@ -985,41 +854,11 @@ public final class PromiseTest {
     private static void digest() {
         due(new Tokenwalk().digest(), -3806448513533004694L);
         Tokenwalk x = prepared();
-        due(x.digest(), digestByWords(x));
+        due(x.digest(), digestByWords(x).longValue());
         due(x.digest(), x.digest());
         x.nextBy(0, 3);
         x.next(3);
         x.blank();
-        due(x.digest(), digestByWords(x));
-    }
-
-    /** The document's words for digest(), put together from the other promises. */
-    private static long digestByWords(Tokenwalk x) {
-        List<Long> numbers = new ArrayList<>();
-        for (int i = 0; i < 6; i++) {
-            numbers.add((long) x.house(i));
-        }
-        for (int text = 0; text < 4; text++) {
-            for (char c : x.text(text).toCharArray()) {
-                numbers.add((long) c);
-            }
-            for (int set : new int[] {224, 24, 0}) {
-                numbers.add((long) x.countOf(text, set, true));
-                numbers.add((long) x.countOf(text, set, false));
-            }
-        }
-        for (int walker = 0; walker < 4; walker++) {
-            numbers.add((long) x.count(walker));
-            numbers.add((long) x.had(walker));
-            numbers.add((long) x.setOf(walker));
-            numbers.add(x.isKeeping(walker) ? 1L : 0L);
-            numbers.add((long) x.textOf(walker).length());
-        }
-        numbers.add(x.isSound() ? 1L : 0L);
-        long d = 7735;
-        for (long v : numbers) {
-            d = d * 31 + v;
-        }
-        return d;
+        due(x.digest(), digestByWords(x).longValue());
     }
 }
