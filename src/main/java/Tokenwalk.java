@@ -512,7 +512,7 @@ public final class Tokenwalk {
         if (told.size > 0) {
             told.put(BAR);
         }
-        told.putPart(goer.own, goer.from, goer.place);
+        gather(goer);
     }
 
     private void gather(Walker goer) {

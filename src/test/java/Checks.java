@@ -48,8 +48,12 @@ class Checks {
     }
 
     static void report(String what) {
+        report(subject, what);
+    }
+
+    static void report(String about, String what) {
         wrong++;
-        System.out.println(subject + ": " + what);
+        System.out.println(about + ": " + what);
     }
 
     static void finish(String test) {

@@ -1,6 +1,6 @@
 import java.util.List;
 
-/** The sentences of the document that stand before its promises. */
+/** The sentences of the document that stand before its promises: a test each. */
 public final class DescriptionSentencesTest extends Sentences {
     /** All calls that tell one PIECE; with a REFUSAL each of them has the WALKER BEGUN again. */
     private static final List<IndexedCall> TELLING = List.of(
@@ -8,7 +8,9 @@ public final class DescriptionSentencesTest extends Sentences {
         (x, w) -> x.nextFirst(w), (x, w) -> x.isNext(w, 0), (x, w) -> x.take(w, 0));
 
     public static void main(String[] args) {
+        whatItIs();
         anObject();
+        numbers();
         exceptions();
         textsAndSets();
         walkersAtFirst();
@@ -17,6 +19,74 @@ public final class DescriptionSentencesTest extends Sentences {
         refusals();
         countAndHad();
         finish("DescriptionSentencesTest", DESCRIPTION, DESCRIPTION);
+    }
+
+    private static void whatItIs() {
+        says(DESCRIPTION, "Texts are typed, cut, joined; a walker is given a text and a set of signs that part, and tells piece by piece what stands between them, with these signs as pieces of their own, or without; on the way it may be given another set.", () -> {
+            Tokenwalk x = typed("ab,c");
+            x.typeRow(1, 0341, 3);
+            x.drop(1, 1);
+            due(x.join(0, 1, 2), 6);
+            due(x.text(2), "ab,cb;");
+            x.begin(0, 2, 8, true);
+            due(x.next(0), "ab");
+            due(x.next(0), ",");
+            due(x.nextBy(0, 2), "c");
+            due(x.next(0), "b");
+            x.begin(0, 2, 8, false);
+            due(x.next(0), "ab");
+            due(x.nextBy(0, 2), ",c");
+            due(x.next(0), ";");
+        });
+        says(DESCRIPTION, "Walkers go side by side; one asks how many pieces are left, whether there is one, for all that are left, and for pieces of texts at once.", () -> {
+            Tokenwalk x = roomy();
+            for (int i = 0; i < 4; i++) {
+                due(x.next(i), "a");
+            }
+            due(x.next(2), "b");
+            due(x.count(1), 1);
+            due(x.count(2), 0);
+            due(x.has(1), true);
+            due(x.has(2), false);
+            due(x.rest(1), "b");
+            due(x.rest(2), "");
+            due(x.pieces(1, 8, false), "a|b");
+            due(x.both(0, 3), "b|b");
+        });
+    }
+
+    private static void numbers() {
+        says(DESCRIPTION, "NONE is -1.", () -> {
+            Tokenwalk x = prepared();
+            due(x.nextFirst(3), -1);
+            due(new Tokenwalk().nextFirst(0), -1);
+        });
+        says(DESCRIPTION, "A set is the sum of 2^k for the numbers k in it.", () -> {
+            String all = "abc,; \t\n";
+            for (int set = 0; set < 256; set++) {
+                StringBuilder left = new StringBuilder();
+                for (int k = 0; k < 8; k++) {
+                    left.append((set & 1 << k) == 0 ? all.substring(k, k + 1) : "");
+                }
+                due(typed(all).without(0, set), left.toString());
+            }
+        });
+        says(DESCRIPTION, "X by X is by rising numbers.", () -> {
+            Tokenwalk x = new Tokenwalk();
+            for (int i = 0; i < 4; i++) {
+                type(x, i, "b,".repeat(i + 2));
+                x.beginBy(i, i, 8 + 32 * i);
+                x.skip(i, i + 1);
+            }
+            due(x.digest(), digestByWords(x).longValue());
+        });
+        says(DESCRIPTION, "Places are numbered from 0.", () -> {
+            Tokenwalk x = typed("b,");
+            due(x.signAt(0, 0), 1);
+            due(x.signAt(0, 1), 3);
+            due(answer(y -> y.signAt(0, 2), x), INDEX);
+            due(answer(y -> y.signAt(0, -1), x), INDEX);
+        });
     }
 
     private static void anObject() {

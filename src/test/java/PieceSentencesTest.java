@@ -1,12 +1,13 @@
 import java.math.BigInteger;
 
-/** The sentences of promises 35 to 47, of pieces and of the way, that name an edge: a test each. */
+/** The sentences of promises 35 to 47, of pieces and of the way: a test each. */
 public final class PieceSentencesTest extends Sentences {
     private static final String NO_TEXT = "Throws `IndexOutOfBoundsException` if there is no such TEXT";
     private static final String NO_SUCH_SET = "Throws `IllegalArgumentException` if set is not 0 to 255";
     private static final String NO_SUCH_SETS = "Throws `IllegalArgumentException` if set or other is not 0 to 255";
 
     public static void main(String[] args) {
+        asWalkersTellThem();
         pieces();
         countOf();
         pieceAt();
@@ -32,6 +33,31 @@ public final class PieceSentencesTest extends Sentences {
     }
 
     // ---- pieces of texts
+
+    private static void asWalkersTellThem() {
+        says(35, "---- pieces of texts (as a WALKER would tell them that is BEGUN so)", () -> {
+            for (int text = 0; text < 4; text++) {
+                for (int set = 0; set < 256; set += 17) {
+                    asWalkersTell(text, set, true);
+                    asWalkersTell(text, set, false);
+                }
+            }
+        });
+    }
+
+    private static void asWalkersTell(int text, int set, boolean isKeeping) {
+        Tokenwalk x = prepared();
+        due(x.countOf(text, set, isKeeping), x.begin(0, text, set, isKeeping));
+        due(x.pieces(text, set, isKeeping), x.rest(0));
+        x.beginLike(0, 0);
+        StringBuilder all = new StringBuilder();
+        for (int k = 0; k < 25; k++) {
+            String piece = x.has(0) ? x.next(0) : "";
+            due(x.pieceAt(text, set, isKeeping, k), piece);
+            all.append(piece);
+        }
+        due(isKeeping ? x.whole(text, set) : x.without(text, set), all.toString());
+    }
 
     private static void pieces() {
         says(35, "Returns all PIECES; \"\" without any.", () -> {
@@ -186,6 +212,16 @@ public final class PieceSentencesTest extends Sentences {
     // ---- the way
 
     private static void blank() {
+        says(43, "A walker without a text wants to begin: it is counted.", () -> {
+            Tokenwalk x = prepared();
+            for (int i = 2; i <= 40; i++) {
+                x.blank();
+                due(x.house(4), i);
+            }
+            due(x.house(3), 0);
+            due(x.house(5), 2);
+            due(new Tokenwalk().house(4), 0);
+        });
         says(43, "Returns -9.", () -> {
             Tokenwalk x = new Tokenwalk();
             due(x.blank(), -9);
@@ -195,6 +231,15 @@ public final class PieceSentencesTest extends Sentences {
     }
 
     private static void knock() {
+        says(44, "Knocks at a milestone.", () -> {
+            Tokenwalk x = prepared();
+            for (int i = 3; i <= 40; i++) {
+                x.knock();
+                due(x.house(5), i);
+            }
+            due(x.house(4), 1);
+            due(new Tokenwalk().house(5), 0);
+        });
         says(44, "Returns how often ever, with this.", () -> {
             Tokenwalk x = new Tokenwalk();
             due(x.knock(), 1);
@@ -206,6 +251,31 @@ public final class PieceSentencesTest extends Sentences {
     }
 
     private static void house() {
+        says(45, "- `what`: 0 SIGNS of all TEXTS, 1 COUNT of all WALKERS, 2 HAD of all WALKERS, 3 how many REFUSALS there were ever (of calls that tell one PIECE), 4 how often -9 was told by blank(), 5 how often it was knocked", () -> {
+            Tokenwalk x = new Tokenwalk();
+            for (int i = 0; i < 4; i++) {
+                type(x, i, "a,".repeat(i + 1));
+                x.begin(i, i, 8, true);
+                x.skip(i, i + 1);
+            }
+            x.blank();
+            for (int i = 0; i < 2; i++) {
+                x.knock();
+            }
+            houses(x, 20, 10, 10, 0, 1, 2);
+            // none of these tells one PIECE, or has to tell one that there is not
+            x.rest(0);
+            x.both(0, 0);
+            x.things(0);
+            x.skip(0, 24);
+            x.pieceAt(0, 8, true, 24);
+            x.firstThen(0, 9, 9);
+            houses(x, 20, 9, 11, 0, 1, 2);
+            x.next(0);
+            houses(x, 20, 11, 9, 1, 1, 2);
+            x.take(0, 1);
+            houses(x, 17, 10, 10, 1, 1, 2);
+        });
         says(45, "Returns that.", () -> {
             int[] sums = {39, 8, 5, 0, 1, 2};
             for (int i = 0; i < sums.length; i++) {
@@ -231,6 +301,12 @@ public final class PieceSentencesTest extends Sentences {
         });
         says(45, "Throws `IllegalArgumentException` if what is not 0 to 5", () ->
             takesOnly(0, 5, ARGUMENT, (x, what) -> x.house(what)));
+    }
+
+    private static void houses(Tokenwalk x, int... sums) {
+        for (int what = 0; what < sums.length; what++) {
+            due(x.house(what), sums[what]);
+        }
     }
 
     private static void isSound() {

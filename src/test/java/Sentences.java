@@ -9,15 +9,20 @@ import java.util.regex.Pattern;
 
 /**
  * Tests that quote the document: each says by which sentence it is due. A sentence that it misquotes is
- * reported, and at the end each sentence of the document that names an edge and has no test.
+ * reported, and at the end each sentence of the document that says what the class does and has no test.
  */
 class Sentences extends Checks {
     /** What stands before the first promise, as if it were a promise. */
     static final int DESCRIPTION = 0;
 
-    private static final Pattern NAMES_AN_EDGE = Pattern.compile(
-        "^(Throws|Returns|Computes)\\b|at most|empty|\\bnone\\b|perhaps|the same one twice|with a REFUSAL"
-        + "|wraps around|changes nothing|is named first");
+    /** Titles and signatures (FaceTest compares these), and headings without words in brackets. */
+    private static final Pattern HEADING = Pattern.compile("^(#|==|```|public |\\}|`)|^----[^(]*$|^$");
+
+    /** Parameters that are just what their names say, and sentences that only lead to the others. */
+    private static final Pattern NEEDS_NO_TEST = Pattern.compile(
+        "^- `\\w+`: (a|an|the|another|whether|how)( \\w+){1,3}$"
+        + "|^Walkers over texts of signs\\.$|^Whole numbers\\.$|^The constructor and the methods follow");
+    private static final Pattern NAMES_AN_EDGE = Pattern.compile("at most|perhaps");
 
     private static final List<List<String>> DOCUMENT = sentencesByPromise();
     private static final Set<String> TESTED = new HashSet<>();
@@ -36,12 +41,16 @@ class Sentences extends Checks {
     static void finish(String test, int first, int last) {
         for (int promise = first; promise <= last; promise++) {
             for (String sentence : DOCUMENT.get(promise)) {
-                if (NAMES_AN_EDGE.matcher(sentence).find() && !TESTED.contains(label(promise, sentence))) {
-                    report("no test stands for " + label(promise, sentence));
+                if (needsTest(sentence) && !TESTED.contains(label(promise, sentence))) {
+                    report(label(promise, sentence), "no test stands for this");
                 }
             }
         }
         finish(test);
+    }
+
+    private static boolean needsTest(String sentence) {
+        return NAMES_AN_EDGE.matcher(sentence).find() || !NEEDS_NO_TEST.matcher(sentence).find();
     }
 
     private static String label(int promise, String sentence) {
@@ -59,10 +68,11 @@ class Sentences extends Checks {
     }
 
     private static List<String> sentencesOf(String part) {
+        String behindTitle = part.substring(part.indexOf('\n'));
         List<String> sentences = new ArrayList<>();
-        for (String line : part.split("\n")) {
-            for (String sentence : line.strip().split("(?<=\\.) (?=[A-Z])")) {
-                sentences.add(sentence);
+        for (String line : behindTitle.split("\n")) {
+            if (!HEADING.matcher(line.strip()).find()) {
+                sentences.addAll(List.of(line.strip().split("(?<=\\.) (?=[A-Z])")));
             }
         }
         return sentences;

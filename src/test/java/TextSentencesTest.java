@@ -1,4 +1,4 @@
-/** The sentences of promises 1 to 11, of texts, that name an edge: a test each. */
+/** The sentences of promises 1 to 11, of texts: a test each. */
 public final class TextSentencesTest extends Sentences {
     public static void main(String[] args) {
         newObject();
@@ -34,6 +34,18 @@ public final class TextSentencesTest extends Sentences {
     }
 
     private static void type() {
+        says(2, "Types a SIGN behind a TEXT.", () -> {
+            Tokenwalk x = new Tokenwalk();
+            for (int sign = 7; sign >= 0; sign--) {
+                x.type(2, sign);
+                due(x.signAt(2, 7 - sign), sign);
+            }
+            due(x.text(2), "\n\t ;,cba");
+            due(x.house(0), 8);
+            x.drop(2, 7);
+            x.type(2, 1);
+            due(x.text(2), "\nb");
+        });
         says(2, "Returns how many it has then.", () -> {
             Tokenwalk x = new Tokenwalk();
             for (int i = 1; i <= 24; i++) {
@@ -60,6 +72,14 @@ public final class TextSentencesTest extends Sentences {
     }
 
     private static void typeOften() {
+        says(3, "Types a SIGN again and again.", () -> {
+            Tokenwalk x = new Tokenwalk();
+            for (int sign = 0; sign < 8; sign++) {
+                x.typeOften(1, sign, 3);
+            }
+            due(x.text(1), "aaabbbccc,,,;;;   \t\t\t\n\n\n");
+            due(x.house(0), 24);
+        });
         says(3, "Returns how many it has then.", () -> {
             Tokenwalk x = new Tokenwalk();
             due(x.typeOften(0, 2, 1), 1);
@@ -84,6 +104,19 @@ public final class TextSentencesTest extends Sentences {
     }
 
     private static void typeRow() {
+        says(4, "Types a row of SIGNS: the digits of a number by 8, the lowest one first, as many as told.", () -> {
+            Tokenwalk x = new Tokenwalk();
+            x.typeRow(0, 076543210, 8);
+            due(x.text(0), "abc,; \t\n");
+            x.typeRow(0, 0321, 2);
+            due(x.text(0), "abc,; \t\nbc");
+            x.typeRow(0, 5, 3);
+            due(x.text(0), "abc,; \t\nbc aa");
+            x.typeRow(1, 017777777776, 10);
+            due(x.text(1), "\t\n\n\n\n\n\n\n\n\n");
+            x.typeRow(2, 010000000000, 10);
+            due(x.text(2), "aaaaaaaaaa");
+        });
         says(4, "Returns how many it has then.", () -> {
             Tokenwalk x = new Tokenwalk();
             due(x.typeRow(0, 0, 1), 1);
@@ -112,6 +145,19 @@ public final class TextSentencesTest extends Sentences {
     }
 
     private static void drop() {
+        says(5, "Takes the last SIGNS away.", () -> {
+            Tokenwalk x = prepared();
+            x.drop(0, 4);
+            due(x.text(0), "ab,,c");
+            x.drop(0, 1);
+            due(x.text(0), "ab,,");
+            x.type(0, 4);
+            due(x.text(0), "ab,,;");
+            x.drop(0, 5);
+            due(x.text(0), "");
+            due(x.text(1), "a b\tc\n");
+            due(x.textOf(0), "ab,,c;a,,");
+        });
         says(5, "Returns how many are left.", () -> {
             Tokenwalk x = prepared();
             due(x.drop(2, 1), 23);
@@ -135,6 +181,18 @@ public final class TextSentencesTest extends Sentences {
     }
 
     private static void wipe() {
+        says(6, "Takes all SIGNS away.", () -> {
+            Tokenwalk x = prepared();
+            x.wipe(0);
+            due(x.text(0), "");
+            due(x.length(0), 0);
+            x.wipe(2);
+            due(x.house(0), 6);
+            due(x.text(1), "a b\tc\n");
+            due(x.textOf(0), "ab,,c;a,,");
+            x.type(0, 4);
+            due(x.text(0), ";");
+        });
         says(6, "Returns how many it had.", () -> {
             Tokenwalk x = prepared();
             due(x.wipe(3), 0);
@@ -149,6 +207,25 @@ public final class TextSentencesTest extends Sentences {
     }
 
     private static void join() {
+        says(7, "A TEXT becomes two others, one behind the other.", () -> {
+            Tokenwalk x = prepared();
+            x.join(1, 1, 2);
+            due(x.text(2), "a b\tc\na b\tc\n");
+            due(x.text(1), "a b\tc\n");
+            x.join(1, 3, 2);
+            due(x.text(2), "a b\tc\n");
+            x.join(3, 1, 0);
+            due(x.text(0), "a b\tc\n");
+            due(x.textOf(0), "ab,,c;a,,");
+        });
+        says(7, "- `one`: the TEXT whose SIGNS come first", () -> {
+            Tokenwalk x = typed("ab");
+            type(x, 1, ",;");
+            x.join(0, 1, 2);
+            due(x.text(2), "ab,;");
+            x.join(1, 0, 3);
+            due(x.text(3), ",;ab");
+        });
         says(7, "- `to`: which TEXT becomes it (perhaps one of both)", () -> {
             Tokenwalk x = typed("ab");
             type(x, 1, ",;");

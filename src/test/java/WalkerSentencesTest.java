@@ -1,4 +1,4 @@
-/** The sentences of promises 12 to 34, of walkers, that name an edge: a test each. */
+/** The sentences of promises 12 to 34, of walkers: a test each. */
 public final class WalkerSentencesTest extends Sentences {
     private static final String NO_WALKER = "Throws `IndexOutOfBoundsException` if there is no such WALKER";
     private static final String NO_WALKER_OR_TEXT = "Throws `IndexOutOfBoundsException` if there is no such WALKER or TEXT";
@@ -15,9 +15,9 @@ public final class WalkerSentencesTest extends Sentences {
         beginBy();
         beginPlain();
         beginLike();
-        next(16, (x, walker) -> x.next(walker));
+        next(16, "Tells the next PIECE.", (x, walker) -> x.next(walker));
         nextBy();
-        next(18, (x, walker) -> x.thing(walker));
+        next(18, "Tells the next PIECE, as the next THING of a row of things.", (x, walker) -> x.thing(walker));
         nextLength();
         nextFirst();
         isNext();
@@ -67,6 +67,16 @@ public final class WalkerSentencesTest extends Sentences {
     // ---- walkers begin
 
     private static void begin() {
+        says(12, "A WALKER is BEGUN with a TEXT, a SET, KEEPING or not.", () -> {
+            Tokenwalk x = prepared();
+            x.begin(1, 1, 160, true);
+            isBegun(x, 1, "a b\tc\n", 160, true);
+            due(x.rest(1), "a| |b\tc|\n");
+            x.begin(1, 0, 24, false);
+            isBegun(x, 1, "ab,,c;a,,", 24, false);
+            due(x.rest(1), "ab|c|a");
+            isOnItsWay(x);
+        });
         says(12, "Returns COUNT.", () -> {
             Tokenwalk x = prepared();
             due(x.begin(0, 3, 0, true), 0);
@@ -85,6 +95,15 @@ public final class WalkerSentencesTest extends Sentences {
     }
 
     private static void beginBy() {
+        says(13, "A WALKER is BEGUN with a TEXT and a SET, not KEEPING.", () -> {
+            Tokenwalk x = prepared();
+            x.beginBy(1, 1, 160);
+            isBegun(x, 1, "a b\tc\n", 160, false);
+            due(x.rest(1), "a|b\tc");
+            x.beginBy(1, 3, 255);
+            isBegun(x, 1, "", 255, false);
+            isOnItsWay(x);
+        });
         says(13, "Returns COUNT.", () -> {
             Tokenwalk x = prepared();
             due(x.beginBy(0, 3, 0), 0);
@@ -100,6 +119,15 @@ public final class WalkerSentencesTest extends Sentences {
     }
 
     private static void beginPlain() {
+        says(14, "A WALKER is BEGUN with a TEXT and PLAIN, not KEEPING.", () -> {
+            Tokenwalk x = prepared();
+            x.beginPlain(1, 1);
+            isBegun(x, 1, "a b\tc\n", 224, false);
+            due(x.rest(1), "a|b|c");
+            x.beginPlain(1, 0);
+            isBegun(x, 1, "ab,,c;a,,", 224, false);
+            isOnItsWay(x);
+        });
         says(14, "Returns COUNT.", () -> {
             Tokenwalk x = prepared();
             due(x.beginPlain(1, 3), 0);
@@ -116,7 +144,35 @@ public final class WalkerSentencesTest extends Sentences {
         needsBoth(14, NO_WALKER_OR_TEXT, (x, walker, text) -> x.beginPlain(walker, text));
     }
 
+    /** This one stands at its first place, with just this. */
+    private static void isBegun(Tokenwalk x, int walker, String text, int set, boolean isKeeping) {
+        due(x.textOf(walker), text);
+        due(x.setOf(walker), set);
+        due(x.isKeeping(walker), isKeeping);
+        due(x.had(walker), 0);
+    }
+
+    /** Nothing was done to WALKER 0 of a prepared object. */
+    private static void isOnItsWay(Tokenwalk x) {
+        due(x.setOf(0), 8);
+        due(x.had(0), 1);
+        due(x.nextBy(0, 0), ",,c;a,,");
+    }
+
     private static void beginLike() {
+        says(15, "A WALKER is BEGUN with what another one has: its TEXT, its SET as it is then, KEEPING or not.", () -> {
+            Tokenwalk x = prepared();
+            x.drop(0, 3);
+            x.nextBy(1, 16);
+            x.beginLike(2, 1);
+            isBegun(x, 2, "ab,,c;a,,", 16, true);
+            due(x.rest(2), "ab,,c|;|a,,");
+            due(x.rest(1), ";|a,,");
+            x.beginLike(1, 0);
+            isBegun(x, 1, "ab,,c;a,,", 8, false);
+            due(x.rest(1), "ab|c;a");
+            isOnItsWay(x);
+        });
         says(15, "- `other`: the other one (perhaps the same)", () -> {
             Tokenwalk x = prepared();
             due(x.beginLike(1, 1), 6);
@@ -148,7 +204,20 @@ public final class WalkerSentencesTest extends Sentences {
 
     // ---- walkers go
 
-    private static void next(int promise, TellingCall call) {
+    private static void next(int promise, String sentence, TellingCall call) {
+        says(promise, sentence, () -> {
+            Tokenwalk x = prepared();
+            for (String piece : new String[] {",", "c;a", ",", ","}) {
+                due(call.on(x, 1), piece);
+            }
+            for (String piece : new String[] {"a", "b", "c"}) {
+                due(call.on(x, 2), piece);
+            }
+            due(x.had(1), 6);
+            due(x.had(2), 3);
+            due(x.house(3), 0);
+            isOnItsWay(x);
+        });
         says(promise, "Returns it; \"\" with a REFUSAL.", () -> {
             Tokenwalk x = prepared();
             due(call.on(x, 0), "c;a");
@@ -170,6 +239,19 @@ public final class WalkerSentencesTest extends Sentences {
     }
 
     private static void nextBy() {
+        says(17, "Has another SET from now on, and tells the next PIECE by that.", () -> {
+            Tokenwalk x = prepared();
+            due(x.nextBy(1, 16), ",c");
+            due(x.setOf(1), 16);
+            due(x.next(1), ";");
+            due(x.count(1), 1);
+            due(x.nextBy(1, 8), "a");
+            due(x.rest(1), ",|,");
+            due(x.had(1), 7);
+            due(x.nextBy(2, 64), "a b");
+            due(x.thing(2), "c\n");
+            isOnItsWay(x);
+        });
         says(17, "Returns it; \"\" with a REFUSAL (it has that SET then, too).", () -> {
             Tokenwalk x = prepared();
             due(x.nextBy(0, 16), ",,c");
@@ -197,6 +279,16 @@ public final class WalkerSentencesTest extends Sentences {
     }
 
     private static void nextLength() {
+        says(19, "Tells the next PIECE, by how long it is.", () -> {
+            Tokenwalk x = prepared();
+            for (int length : new int[] {1, 3, 1, 1}) {
+                due(x.nextLength(1), length);
+            }
+            due(x.had(1), 6);
+            due(x.nextLength(2), 1);
+            due(x.next(2), "b");
+            isOnItsWay(x);
+        });
         says(19, "Returns how many SIGNS it has; 0 with a REFUSAL.", () -> {
             Tokenwalk x = prepared();
             due(x.nextLength(0), 3);
@@ -216,6 +308,16 @@ public final class WalkerSentencesTest extends Sentences {
     }
 
     private static void nextFirst() {
+        says(20, "Tells the next PIECE, by its first SIGN.", () -> {
+            Tokenwalk x = prepared();
+            for (int sign : new int[] {3, 2, 3, 3}) {
+                due(x.nextFirst(1), sign);
+            }
+            due(x.had(1), 6);
+            due(x.nextFirst(2), 0);
+            due(x.next(2), "b");
+            isOnItsWay(x);
+        });
         says(20, "Returns that; NONE with a REFUSAL.", () -> {
             Tokenwalk x = typed("abc,; \t\n");
             x.begin(0, 0, 255, true);
@@ -410,6 +512,16 @@ public final class WalkerSentencesTest extends Sentences {
     }
 
     private static void askOften() {
+        says(29, "Asks for COUNT, then whether there is a PIECE, again and again.", () -> {
+            for (int walker = 0; walker < 4; walker++) {
+                Tokenwalk x = prepared();
+                int each = x.count(walker) + (x.has(walker) ? 1 : 0);
+                for (int many = 1; many <= 24; many++) {
+                    due(x.askOften(walker, many), many * each);
+                }
+                due(trace(x), trace(prepared()));
+            }
+        });
         says(29, "Returns the sum of all COUNTS, and 1 more for each time that there is one.", () -> {
             asks(x -> x.askOften(0, 1), 2);
             asks(x -> x.askOften(1, 24), 120);
