@@ -3,7 +3,7 @@ import java.nio.file.Path;
 import java.util.List;
 import java.util.regex.Pattern;
 
-/** The rules of LANGUAGE.md that can be seen from single lines; the others are kept by reading. */
+/** The rules of LANGUAGE.md that can be seen from single lines; more of them are in LanguageTreeTest. */
 public final class LanguageTest {
     private static final String THROWN = "(IllegalStateException|IllegalArgumentException|IndexOutOfBoundsException"
         + "|ArithmeticException|UnsupportedOperationException|NoSuchElementException|RuntimeException)";
@@ -11,15 +11,11 @@ public final class LanguageTest {
         {"2", "^(?!\\s*(case|default)\\b).*->|::"},
         {"3", "\\b(Object|Long|Boolean|Character)\\b\\s+\\w+\\s*[=;]"},
         {"4", "\\bjava\\.(?!util\\.(ArrayList|List|Arrays|Iterator|NoSuchElementException|\\*);)"},
-        {"4", "\\bSystem\\.(?!arraycopy)"},
-        {"4", "Exact\\("},
-        {"4", "String\\.(format|valueOf|join)"},
         {"5", "^\\s*static\\s*\\{"},
         {"6", "\\b(finally|synchronized|assert)\\b|\\btry\\s*\\("},
         {"6", "\\bcatch\\b(?!\\s*\\(\\s*(final\\s+)?" + THROWN + "\\b)"},
         {"6", "\\.getMessage\\(|\\bhashCode\\b|\\btoString\\(\\)\\s*\\{|extends \\w*Exception"},
         {"6", "\\bthrow\\b(?! new " + THROWN + "\\((\"[^\"]*\")?\\);)"},
-        {"10", "\"\\s*\\+|\\+=?\\s*\""},
         {"13", "\\b(Random|nanoTime|currentTimeMillis|Thread|File)\\b"}};
 
     public static void main(String[] args) throws Exception {

@@ -10,6 +10,7 @@ import java.util.StringTokenizer;
 public final class ModelTest {
     private static final int RUNS = 600;
     private static final int CALLS = 512;
+    private static final int DIGEST = 45;
     private static final String LETTERS = "abc,; \t\n";
 
     private static long seed;
@@ -34,7 +35,7 @@ public final class ModelTest {
         List<String> calls = new ArrayList<>();
         for (int i = 0; i < CALLS; i++) {
             // every eighth call is a digest, which shows what a call should not have changed
-            int method = i % 8 == 7 ? 44 : pick(45);
+            int method = i % 8 == 7 ? DIGEST : pick(KINDS.length);
             int[] args = arguments(method);
             calls.add(method + " " + java.util.Arrays.toString(args));
             String got = answer(() -> onProgram(x, method, args));
@@ -73,7 +74,7 @@ public final class ModelTest {
         "w", "ws", "w", "w", "w", "wt", "wm", "w", "w", "ww",
         "w", "w", "w", "wm", "w", "w", "w", "w", "ww",
         "tsk", "tsk", "tskp", "tss", "tss", "ts", "ts", "tts",
-        "", "", "h", ""};
+        "", "", "h", "", ""};
 
     private static int[] arguments(int method) {
         String kinds = KINDS[method];
@@ -85,6 +86,9 @@ public final class ModelTest {
     }
 
     private static int argument(char kind) {
+        if (kind != 'k' && pick(200) == 0) {
+            return pick(2) == 0 ? Integer.MIN_VALUE : Integer.MAX_VALUE;
+        }
         boolean isEdge = pick(30) == 0;
         switch (kind) {
             case 't': case 'w': return isEdge ? pick(2) * 5 - 1 : pick(4);
@@ -145,6 +149,7 @@ public final class ModelTest {
             case 41: return x.blank();
             case 42: return x.knock();
             case 43: return x.house(a[0]);
+            case 44: return x.isSound();
             default: return x.digest();
         }
     }
@@ -398,6 +403,7 @@ public final class ModelTest {
                 case 41: blanks++; return -9;
                 case 42: return ++knocks;
                 case 43: return house(a[0]);
+                case 44: return true;
                 default: return digest();
             }
         }
